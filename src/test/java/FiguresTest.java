@@ -159,6 +159,9 @@ public final class FiguresTest {
         CHECK.same("a piece with too many left", false, withFault("ends", 2, 5).isSound());
         CHECK.same("a number too many", false, withFault("whats", 2, 'n').isSound());
         CHECK.same("no fault", true, withFault("ends", 2, 4).isSound());
+        Splityard moved = withFault("nexts", 1, 2);
+        setFault(moved, "ends", 1, 3);
+        CHECK.same("a piece of the right size at a wrong place", false, moved.isSound());
     }
 
     /** Bench 0 of four numbers, as a number, a piece of 1 and a piece of 2, with one value set otherwise. */
@@ -166,6 +169,12 @@ public final class FiguresTest {
         Splityard yard = opened('i', 4);
         yard.step(0, 0);
         yard.split(0, 1);
+        setFault(yard, field, item, value);
+        return yard;
+    }
+
+    private static void setFault(Splityard yard, String field, int item, int value)
+            throws ReflectiveOperationException {
         Object bench = Array.get(read(yard, "benches"), 0);
         Object values = read(bench, field);
         if (values instanceof long[]) {
@@ -173,7 +182,6 @@ public final class FiguresTest {
         } else {
             Array.setInt(values, item, value);
         }
-        return yard;
     }
 
     private static Object read(Object object, String name) throws ReflectiveOperationException {
