@@ -35,6 +35,14 @@ final class Check {
         }
     }
 
+    /** An object whose bench 0 is opened for the numbers 1 to so many, of a row of the kind. */
+    static Splityard opened(char kind, int many) {
+        Splityard yard = new Splityard();
+        yard.lay(kind, 0, many, 1, 1);
+        yard.openAll(0, kind, 0);
+        return yard;
+    }
+
     /** What a bench shows of its items: 'n' with the number, 'p' or 't' with how many are left. */
     static String bench(Splityard yard, int bench) {
         StringBuilder shown = new StringBuilder();

@@ -20,15 +20,8 @@ public final class FiguresTest {
         CHECK.end();
     }
 
-    private static Splityard opened(char kind, int many) {
-        Splityard yard = new Splityard();
-        yard.lay(kind, 0, many, 1, 1);
-        yard.openAll(0, kind, 0);
-        return yard;
-    }
-
     private static void share() {
-        Splityard yard = opened('i', 3);
+        Splityard yard = Check.opened('i', 3);
         CHECK.same("share of none", 0.0f, yard.share(0));
         yard.step(0, 0);
         CHECK.same("share of a third", 1.0f / 3.0f, yard.share(0));
@@ -54,7 +47,7 @@ public final class FiguresTest {
     }
 
     private static void meanLeft() {
-        Splityard yard = opened('l', 7);
+        Splityard yard = Check.opened('l', 7);
         CHECK.same("meanLeft of one", 7.0, yard.meanLeft(0));
         yard.split(0, 0);
         CHECK.same("meanLeft of two", 3.5, yard.meanLeft(0));
@@ -71,7 +64,7 @@ public final class FiguresTest {
     }
 
     private static void meanLeftRefuses() {
-        Splityard yard = opened('i', 3);
+        Splityard yard = Check.opened('i', 3);
         yard.drain(0, 0);
         CHECK.same("meanLeft of an empty piece", 0.0, yard.meanLeft(0));
         yard.sweep(0);
@@ -166,7 +159,7 @@ public final class FiguresTest {
 
     /** Bench 0 of four numbers, as a number, a piece of 1 and a piece of 2, with one value set otherwise. */
     private static Splityard withFault(String field, int item, int value) throws ReflectiveOperationException {
-        Splityard yard = opened('i', 4);
+        Splityard yard = Check.opened('i', 4);
         yard.step(0, 0);
         yard.split(0, 1);
         setFault(yard, field, item, value);

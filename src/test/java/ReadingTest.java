@@ -25,17 +25,9 @@ public final class ReadingTest {
         CHECK.end();
     }
 
-    /** Bench 0 opened for the numbers 1 to so many. */
-    private static Splityard opened(char kind, int many) {
-        Splityard yard = new Splityard();
-        yard.lay(kind, 0, many, 1, 1);
-        yard.openAll(0, kind, 0);
-        return yard;
-    }
-
     private static void split() {
         for (char kind : KINDS) {
-            Splityard yard = opened(kind, 7);
+            Splityard yard = Check.opened(kind, 7);
             CHECK.same("split 7", 3, yard.split(0, 0));
             CHECK.same("split 7", "p3 p4", Check.bench(yard, 0));
             CHECK.same("split 4", 2, yard.split(0, 1));
@@ -51,7 +43,7 @@ public final class ReadingTest {
     }
 
     private static void splitRefuses() {
-        Splityard yard = opened('i', 5);
+        Splityard yard = Check.opened('i', 5);
         yard.step(0, 0);
         yard.split(0, 1);
         yard.iterate(0, 1);
@@ -63,7 +55,7 @@ public final class ReadingTest {
 
     private static void step() {
         for (char kind : KINDS) {
-            Splityard yard = opened(kind, 3);
+            Splityard yard = Check.opened(kind, 3);
             CHECK.same("step", true, yard.step(0, 0));
             CHECK.same("stepped", "n1 p2", Check.bench(yard, 0));
             CHECK.same("step", true, yard.step(0, 1));
@@ -72,7 +64,7 @@ public final class ReadingTest {
             CHECK.same("step with none left", false, yard.step(0, 3));
             CHECK.same("an empty piece stays", "n1 n2 n3 p0", Check.bench(yard, 0));
         }
-        Splityard yard = opened('l', 4);
+        Splityard yard = Check.opened('l', 4);
         yard.split(0, 0);
         yard.iterate(0, 1);
         CHECK.same("step an iterator", true, yard.step(0, 1));
@@ -84,7 +76,7 @@ public final class ReadingTest {
 
     private static void drain() {
         for (char kind : KINDS) {
-            Splityard yard = opened(kind, 6);
+            Splityard yard = Check.opened(kind, 6);
             yard.step(0, 0);
             yard.split(0, 1);
             CHECK.same("drain the other half", 3, yard.drain(0, 2));
@@ -94,7 +86,7 @@ public final class ReadingTest {
             CHECK.same("drain an empty piece", 0, yard.drain(0, 3));
             CHECK.same("nothing came", 8, yard.items(0));
         }
-        Splityard yard = opened('i', 48);
+        Splityard yard = Check.opened('i', 48);
         yard.iterate(0, 0);
         CHECK.same("drain an iterator", 48, yard.drain(0, 0));
         CHECK.same("it stays an iterator", 't', yard.kindOf(0, 48));
@@ -102,7 +94,7 @@ public final class ReadingTest {
     }
 
     private static void stepAndDrainRefuse() {
-        Splityard yard = opened('o', 2);
+        Splityard yard = Check.opened('o', 2);
         yard.step(0, 0);
         CHECK.refused("step a number", STATE, yard, () -> yard.step(0, 0));
         CHECK.refused("drain a number", STATE, yard, () -> yard.drain(0, 0));
@@ -110,7 +102,7 @@ public final class ReadingTest {
 
     private static void iterate() {
         for (char kind : new char[] {'i', 'l'}) {
-            Splityard yard = opened(kind, 5);
+            Splityard yard = Check.opened(kind, 5);
             yard.step(0, 0);
             CHECK.same("iterate", 4, yard.iterate(0, 1));
             CHECK.same("iterated", "n1 t4", Check.bench(yard, 0));
@@ -123,7 +115,7 @@ public final class ReadingTest {
     }
 
     private static void iterateRefuses() {
-        Splityard yard = opened('i', 4);
+        Splityard yard = Check.opened('i', 4);
         yard.step(0, 0);
         yard.iterate(0, 1);
         CHECK.refused("iterate a number", STATE, yard, () -> yard.iterate(0, 0));
@@ -141,7 +133,7 @@ public final class ReadingTest {
     }
 
     private static void hasNext() {
-        Splityard yard = opened('l', 3);
+        Splityard yard = Check.opened('l', 3);
         yard.split(0, 0);
         yard.iterate(0, 0);
         CHECK.same("hasNext", true, yard.hasNext(0, 0));
@@ -154,7 +146,7 @@ public final class ReadingTest {
 
     private static void crumble() {
         for (char kind : KINDS) {
-            Splityard yard = opened(kind, 7);
+            Splityard yard = Check.opened(kind, 7);
             CHECK.same("crumble to 7", 0, yard.crumble(0, 7));
             CHECK.same("crumble to 2", 3, yard.crumble(0, 2));
             CHECK.same("crumbled to 2", "p1 p2 p2 p2", Check.bench(yard, 0));
@@ -163,7 +155,7 @@ public final class ReadingTest {
             CHECK.same("crumbled to 1", "p1 n2 p1 p1 p1 p1 p1", Check.bench(yard, 0));
             CHECK.same("crumble again", 0, yard.crumble(0, 1));
         }
-        Splityard yard = opened('i', 48);
+        Splityard yard = Check.opened('i', 48);
         CHECK.same("crumble 48 to 48", 0, yard.crumble(0, 48));
         CHECK.same("crumble 48 to 5", 15, yard.crumble(0, 5));
         CHECK.same("crumbled 48 to 5", "p3 p3 p3 p3 p3 p3 p3 p3 p3 p3 p3 p3 p3 p3 p3 p3", Check.bench(yard, 0));
@@ -176,7 +168,7 @@ public final class ReadingTest {
     }
 
     private static void crumbleLeavesIterators() {
-        Splityard yard = opened('i', 16);
+        Splityard yard = Check.opened('i', 16);
         yard.split(0, 0);
         yard.iterate(0, 0);
         CHECK.same("crumble behind an iterator", 3, yard.crumble(0, 2));
@@ -184,7 +176,7 @@ public final class ReadingTest {
     }
 
     private static void crumbleRefuses() {
-        Splityard yard = opened('i', 16);
+        Splityard yard = Check.opened('i', 16);
         for (int most : new int[] {0, 49, -1, Integer.MIN_VALUE, Integer.MAX_VALUE}) {
             CHECK.refused("crumble to " + most, ARGUMENT, yard, () -> yard.crumble(0, most));
             CHECK.refused("crumble a new bench to " + most, ARGUMENT, yard, () -> yard.crumble(1, most));
@@ -193,7 +185,7 @@ public final class ReadingTest {
     }
 
     private static void sweep() {
-        Splityard yard = opened('l', 6);
+        Splityard yard = Check.opened('l', 6);
         CHECK.same("sweep nothing", 0, yard.sweep(0));
         yard.split(0, 0);
         yard.split(0, 0);
@@ -215,7 +207,7 @@ public final class ReadingTest {
     }
 
     private static void isRead() {
-        Splityard yard = opened('i', 3);
+        Splityard yard = Check.opened('i', 3);
         CHECK.same("isRead, opened", false, yard.isRead(0));
         yard.step(0, 0);
         CHECK.same("isRead, begun", false, yard.isRead(0));
@@ -232,7 +224,7 @@ public final class ReadingTest {
     }
 
     private static void wrongBenchesAndItems() {
-        Splityard yard = opened('i', 3);
+        Splityard yard = Check.opened('i', 3);
         for (int bench : new int[] {-1, 6, Integer.MIN_VALUE, Integer.MAX_VALUE}) {
             CHECK.refused("split", INDEX, yard, () -> yard.split(bench, 0));
             CHECK.refused("step", INDEX, yard, () -> yard.step(bench, 0));
