@@ -1,10 +1,18 @@
-/** Counts and prints the answers of a test that are not the ones that are due. */
+/** Counts and prints the answers of a test that are not the ones that are due, sentence by sentence of the document. */
 final class Check {
     interface Call {
-        Object answer();
+        Object answer(Splityard yard);
+    }
+
+    /** Makes the same object each time, so that one can be kept as it was. */
+    interface Recipe {
+        Splityard make();
     }
 
     private final String test;
+    private String sentence = "";
+    private int sentences;
+    private int lookedBefore;
     private int looked;
     private int wrong;
 
@@ -12,60 +20,55 @@ final class Check {
         this.test = test;
     }
 
+    /** Names the sentence that the answers looked at next belong to. */
+    void of(String nextSentence) {
+        endSentence();
+        sentence = nextSentence;
+        sentences++;
+    }
+
     void same(String call, Object due, Object got) {
         looked++;
         if (!due.equals(got)) {
             wrong++;
-            System.out.println(test + ": " + call + " answered " + got + ", due is " + due);
+            System.out.println(test + ", " + sentence + ": " + call + " answered " + got + ", due is " + due);
         }
     }
 
     /** The very class is asked for, so that no exception of the machine's passes for the document's. */
-    void refused(String call, Class<? extends RuntimeException> due, Splityard yard, Call refused) {
-        long before = yard.checksum();
-        same(call, due.getName(), nameOfThrown(refused));
-        same("checksum() behind " + call, before, yard.checksum());
+    void refused(String call, Class<? extends RuntimeException> due, Recipe recipe, Call refused) {
+        leaves(call, "throws " + due.getName(), recipe, refused);
     }
 
-    private static String nameOfThrown(Call call) {
+    /** For a call that changes nothing: all that the object answers behind it is as without it. */
+    void leaves(String call, Object due, Recipe recipe, Call made) {
+        Splityard yard = recipe.make();
+        same(call, due, answer(yard, made));
+        same("what the object answers behind " + call, Picture.of(recipe.make()), Picture.of(yard));
+    }
+
+    static Object answer(Splityard yard, Call call) {
         try {
-            return "the answer " + call.answer();
+            return call.answer(yard);
         } catch (RuntimeException thrown) {
-            return thrown.getClass().getName();
+            return "throws " + thrown.getClass().getName();
         }
-    }
-
-    /** An object whose bench 0 is opened for the numbers 1 to so many, of a row of the kind. */
-    static Splityard opened(char kind, int many) {
-        Splityard yard = new Splityard();
-        yard.lay(kind, 0, many, 1, 1);
-        yard.openAll(0, kind, 0);
-        return yard;
-    }
-
-    /** What a bench shows of its items: 'n' with the number, 'p' or 't' with how many are left. */
-    static String bench(Splityard yard, int bench) {
-        StringBuilder shown = new StringBuilder();
-        for (int item = 0; item < yard.items(bench); item++) {
-            char kind = yard.kindOf(bench, item);
-            long told = kind == 'n' ? yard.given(bench, item) : yard.left(bench, item);
-            shown.append(item == 0 ? "" : " ").append(kind).append(told);
-        }
-        return shown.toString();
-    }
-
-    static String row(Splityard yard, char kind, int row) {
-        StringBuilder shown = new StringBuilder();
-        for (int place = 0; place < yard.length(kind, row); place++) {
-            shown.append(place == 0 ? "" : " ").append(yard.number(kind, row, place));
-        }
-        return shown.toString();
     }
 
     void end() {
-        System.out.println(test + ": " + looked + " answers looked at, " + wrong + " not as due");
+        endSentence();
+        System.out.println(test + ": " + sentences + " sentences, " + looked + " answers looked at, " + wrong
+                + " not as due");
         if (wrong != 0 || looked == 0) {
             System.exit(1);
         }
+    }
+
+    private void endSentence() {
+        if (sentences > 0 && looked == lookedBefore) {
+            wrong++;
+            System.out.println(test + ", " + sentence + ": no answer was looked at");
+        }
+        lookedBefore = looked;
     }
 }

@@ -55,6 +55,7 @@ public final class FaceTest {
     }
 
     private static void publicMethods() {
+        CHECK.of("the public face, its methods");
         List<String> found = new ArrayList<>();
         for (Method method : Splityard.class.getDeclaredMethods()) {
             if (!Modifier.isPrivate(method.getModifiers())) {
@@ -77,6 +78,7 @@ public final class FaceTest {
     }
 
     private static void constructorsAndFields() {
+        CHECK.of("the public face, its constructor and no other member");
         Constructor<?>[] constructors = Splityard.class.getDeclaredConstructors();
         CHECK.same("one constructor", 1, constructors.length);
         CHECK.same("it is public, without arguments", true,
@@ -87,6 +89,7 @@ public final class FaceTest {
     }
 
     private static void namesOfPrivateMethods() {
+        CHECK.of("rule 1 of LANGUAGE.md, no private method bears the name of a public one");
         TreeSet<String> names = new TreeSet<>();
         for (Method method : Splityard.class.getMethods()) {
             names.add(method.getName());
@@ -102,6 +105,7 @@ public final class FaceTest {
     }
 
     private static void classesInside() {
+        CHECK.of("rules 1, 2 and 5 of LANGUAGE.md, the classes inside");
         for (Class<?> inside : Splityard.class.getDeclaredClasses()) {
             CHECK.same(inside.getName() + " is static", true, Modifier.isStatic(inside.getModifiers()));
             CHECK.same(inside.getName() + " is not public", false, Modifier.isPublic(inside.getModifiers()));
@@ -113,6 +117,7 @@ public final class FaceTest {
     }
 
     private static void words(String text) {
+        CHECK.of("rules 3 to 13 of LANGUAGE.md, words that they bar");
         for (String word : BARRED) {
             CHECK.same("'" + word + "' in the program", -1, text.replace("isExact(", "").indexOf(word));
         }

@@ -23,6 +23,7 @@ public final class LibraryTest {
     private static int lastBench;
 
     public static void main(String[] args) throws ReflectiveOperationException {
+        CHECK.of("all promises, as the library's own spliterators tell it");
         List<Method> methods = methodsDrawn();
         for (int run = 0; run < RUNS; run++) {
             yard = new Splityard();
@@ -41,7 +42,8 @@ public final class LibraryTest {
         List<Method> methods = new ArrayList<>(Arrays.asList(Splityard.class.getDeclaredMethods()));
         methods.removeIf(method -> !java.lang.reflect.Modifier.isPublic(method.getModifiers()));
         methods.sort(Comparator.comparing(Method::getName));
-        List<String> often = List.of("lay", "append", "open", "openAll", "split", "step", "drain", "iterate", "crumble");
+        List<String> often = List.of("lay", "append", "open", "openAll", "split", "step", "drain", "iterate",
+                "crumble");
         for (Method method : List.copyOf(methods)) {
             if (often.contains(method.getName())) {
                 methods.add(method);
