@@ -1,12 +1,15 @@
-import java.lang.reflect.Field;
+import java.io.IOException;
+import java.nio.file.Path;
+import java.util.Spliterator;
 
 /** Promises 26 to 29, sentence by sentence: figures of the benches and of all. */
 public final class FiguresTest {
     private static final Class<ArithmeticException> ARITHMETIC = ArithmeticException.class;
     private static final char[] KINDS = Yards.KINDS;
+    private static final int[] SIZES = {1, 2, 3, 7};
     private static final Check CHECK = new Check("FiguresTest");
 
-    public static void main(String[] args) throws ReflectiveOperationException {
+    public static void main(String[] args) throws IOException, ReflectiveOperationException {
         shareOfNoneToAll();
         shareOfAPart();
         shareWhateverWasSwept();
@@ -30,7 +33,11 @@ public final class FiguresTest {
         isSoundSeesAWrongNumber();
         isSoundSeesAWrongPiece();
         isSoundSeesEachBench();
-        isSoundSeesEachRow();
+        try (BrokenCopy copy = new BrokenCopy(Path.of(args[0]))) {
+            isSoundSeesLackingCharacteristics(copy);
+            isSoundSeesEachFold(copy);
+            isSoundSeesAllPieces(copy);
+        }
         CHECK.end();
     }
 
@@ -362,22 +369,53 @@ public final class FiguresTest {
         }
     }
 
-    /** With 0 as the first of the sizes there are no right pieces of any row that has numbers: none gets so small. */
-    private static void isSoundSeesEachRow() throws ReflectiveOperationException {
-        CHECK.of("29 isSound, of each row, that pieces() is p() of the theorem");
-        Field field = Splityard.class.getDeclaredField("SIZES_TO_CHECK");
-        field.setAccessible(true);
-        int[] sizes = (int[]) field.get(null);
-        int first = sizes[0];
-        sizes[0] = 0;
-        CHECK.same("empty rows", true, new Splityard().isSound());
-        for (char kind : KINDS) {
-            for (int row = 0; row < 4; row++) {
-                CHECK.same("row " + kind + row, false, Yards.laid(kind, row, 3).isSound());
+    private static void isSoundSeesLackingCharacteristics(BrokenCopy copy) throws ReflectiveOperationException {
+        CHECK.of("29 isSound, each piece that is no iterator has its characteristics and is exact");
+        int[] four = {Spliterator.ORDERED, Spliterator.SIZED, Spliterator.SUBSIZED, Spliterator.IMMUTABLE};
+        for (int bench = 0; bench < 6; bench++) {
+            for (int lacking : four) {
+                Object yard = copy.make();
+                copy.call(yard, "lay", 'l', 0, 2, 5L, 1L);
+                copy.call(yard, "openAll", bench, 'l', 0);
+                CHECK.same("a piece", false, copy.isSoundWith(BrokenCopy.LACKING, lacking, yard));
+                CHECK.same("a piece as it was", true, copy.call(yard, "isSound"));
+                copy.call(yard, "step", bench, 0);
+                CHECK.same("a piece behind a number", false, copy.isSoundWith(BrokenCopy.LACKING, lacking, yard));
+                copy.call(yard, "iterate", bench, 1);
+                CHECK.same("an iterator, which has none", true, copy.isSoundWith(BrokenCopy.LACKING, lacking, yard));
             }
         }
-        sizes[0] = first;
-        CHECK.same("as it was", true, allRowsFull().isSound());
+    }
+
+    private static void isSoundSeesEachFold(BrokenCopy copy) throws ReflectiveOperationException {
+        CHECK.of("29 isSound, of each row, for pieces of at most 1, 2, 3, and 7, that each fold() is the row's");
+        for (int most : SIZES) {
+            for (char how : new char[] {'s', 'x', 'h', 'f'}) {
+                isSoundSeesEachRow(copy, most, BrokenCopy.WRONG_FOLD, BrokenCopy.fold(most, how));
+            }
+        }
+    }
+
+    private static void isSoundSeesAllPieces(BrokenCopy copy) throws ReflectiveOperationException {
+        CHECK.of("29 isSound, of each row, for pieces of at most 1, 2, 3, and 7, that pieces() is p() of the theorem");
+        for (int most : SIZES) {
+            isSoundSeesEachRow(copy, most, BrokenCopy.WRONG_PIECES, most);
+        }
+    }
+
+    /** Of rows that are split just once, so that a joining that is wrong by 1 can't be made good by another one. */
+    private static void isSoundSeesEachRow(BrokenCopy copy, int most, String property, int fault)
+            throws ReflectiveOperationException {
+        CHECK.same("empty rows by " + most, true, copy.isSoundWith(property, fault, copy.make()));
+        for (char kind : KINDS) {
+            for (int row = 0; row < 4; row++) {
+                Object yard = copy.make();
+                copy.call(yard, "lay", kind, row, most + 1, 5L, -3L);
+                String name = "row " + kind + row + " by " + most;
+                CHECK.same(name, false, copy.isSoundWith(property, fault, yard));
+                CHECK.same(name + " as it was", true, copy.call(yard, "isSound"));
+            }
+        }
     }
 
     /** A bench of four numbers, as a number, a piece of 1 and a piece of 2, with one value set otherwise. */
